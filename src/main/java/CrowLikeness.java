@@ -1037,7 +1037,7 @@ public final class CrowLikeness {
             next = 0;
             advance();
             for (int items = 1; items <= LONGEST; items++) {
-                if (!isItem(plain)) {
+                if (!takeItem(plain)) {
                     return -1 - start;
                 }
                 if (token == END) {
@@ -1053,21 +1053,21 @@ public final class CrowLikeness {
 
         // Each of those below that answers false leaves the token that can't stand there as the one at hand.
 
-        private boolean isItem(Plain plain) {
+        private boolean takeItem(Plain plain) {
             int kind = kindNamed();
             if (kind >= 0) {
-                return isSitterItem(plain, kind);
+                return takeSitter(plain, kind);
             }
             if (isWord("likeness")) {
-                return isLikenessItem(plain);
+                return takeLikeness(plain);
             }
             if (isWord("wheat")) {
-                return isWheatItem(plain);
+                return takeWheat(plain);
             }
-            return isWord("crows") && isCrowsItem(plain);
+            return isWord("crows") && takeCrows(plain);
         }
 
-        private boolean isSitterItem(Plain plain, int kind) {
+        private boolean takeSitter(Plain plain, int kind) {
             if (plain.sitters >= MOST_SITTERS) {
                 return false;
             }
@@ -1088,7 +1088,7 @@ public final class CrowLikeness {
             return true;
         }
 
-        private boolean isLikenessItem(Plain plain) {
+        private boolean takeLikeness(Plain plain) {
             if (plain.likenesses >= MOST_LIKENESSES) {
                 return false;
             }
@@ -1104,7 +1104,7 @@ public final class CrowLikeness {
             return true;
         }
 
-        private boolean isWheatItem(Plain plain) {
+        private boolean takeWheat(Plain plain) {
             advance();
             if (!takeNumber(0, CELLS - 1)) {
                 return false;
@@ -1127,7 +1127,7 @@ public final class CrowLikeness {
             return true;
         }
 
-        private boolean isCrowsItem(Plain plain) {
+        private boolean takeCrows(Plain plain) {
             advance();
             if (!takeNumber(0, MOST_CROWS)) {
                 return false;
