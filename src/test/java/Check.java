@@ -29,6 +29,9 @@ final class Check {
 
     /** Feeds a whole text to the tape, as many bytes at a time as go. */
     static void feedText(CrowLikeness x, String text) {
+        if (text.length() > 120) {
+            throw new IllegalArgumentException("no tape holds all of: " + text);
+        }
         for (int i = 0; i < text.length(); i += 4) {
             int n = Math.min(4, text.length() - i);
             int bytes = 0;
