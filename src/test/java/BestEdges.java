@@ -25,6 +25,97 @@ final class BestEdges {
         return x;
     }
 
+    // ---- 20 to 26: asking changes nothing
+
+    @Says("ON: n DAYS go on with all as it is; nothing changes.")
+    static void p20_changesNothing() {
+        Edge.leaves("spot(0, 20)", y -> y.spot(0, 20));
+    }
+
+    @Says("ON: n DAYS go on with all as it is; nothing changes.")
+    static void p21_changesNothing() {
+        Edge.leaves("whose(0, 20)", y -> y.whose(0, 20));
+        Edge.leaves("whose(3, 1)", y -> y.whose(3, 1));
+    }
+
+    @Says("ON: n DAYS go on with all as it is; nothing changes.")
+    static void p22_changesNothing() {
+        Edge.leaves("kind(0, 20)", y -> y.kind(0, 20));
+        Edge.leaves("kind(2, 1)", y -> y.kind(2, 1));
+    }
+
+    @Says("ON: n DAYS go on with all as it is; nothing changes.")
+    static void p23_changesNothing() {
+        Edge.leaves("temper(0, 20)", y -> y.temper(0, 20));
+        Edge.leaves("temper(2, 1)", y -> y.temper(2, 1));
+    }
+
+    @Says("ON: n DAYS go on with all as it is; nothing changes.")
+    static void p24_changesNothing() {
+        Edge.leaves("keep(1)", y -> y.keep(1));
+        Edge.leaves("keep(10)", y -> y.keep(10));
+    }
+
+    @Says("The CELL to which a LIKENESS had best be moved,")
+    static void p26_changesNothing() {
+        Edge.leaves("apart(0)", y -> y.apart(0));
+        Edge.leaves("apart(3)", y -> y.apart(3));
+    }
+
+    // ---- 20 to 27: where nothing is eaten whatever is chosen
+
+    private static final String TWO = "dead temper 20; dead temper 30; likeness 1 at 47; likeness 0 at 46; ";
+
+    private static CrowLikeness withoutWheat() {
+        return Edge.bare(TWO + "crows 20");
+    }
+
+    private static CrowLikeness withoutCrows() {
+        return Edge.plain(TWO + "crows 0");
+    }
+
+    @Says("of several the least.")
+    static void p20_withoutWheatAndWithoutCrows() {
+        Edge.asks(BestEdges::withoutWheat, "no wheat", y -> y.spot(1, 20), 0);
+        Edge.asks(BestEdges::withoutCrows, "no crows", y -> y.spot(1, 20), 0);
+    }
+
+    @Says("of several the least.")
+    static void p21_withoutWheatAndWithoutCrows() {
+        Edge.asks(BestEdges::withoutWheat, "no wheat", y -> y.whose(0, 20), 0);
+        Edge.asks(BestEdges::withoutCrows, "no crows", y -> y.whose(0, 20), 0);
+    }
+
+    @Says("of several the least.")
+    static void p22_withoutWheatAndWithoutCrows() {
+        Edge.asks(BestEdges::withoutWheat, "no wheat", y -> y.kind(1, 20), 0);
+        Edge.asks(BestEdges::withoutCrows, "no crows", y -> y.kind(1, 20), 0);
+    }
+
+    @Says("The least TEMPER (0 to 30)")
+    static void p23_withoutWheatAndWithoutCrows() {
+        Edge.asks(BestEdges::withoutWheat, "no wheat", y -> y.temper(1, 20), 0);
+        Edge.asks(BestEdges::withoutCrows, "no crows", y -> y.temper(1, 20), 0);
+    }
+
+    @Says("of several the least.")
+    static void p24_withoutWheatAndWithoutCrows() {
+        Edge.asks(BestEdges::withoutWheat, "no wheat", y -> y.keep(10), 0);
+        Edge.asks(BestEdges::withoutCrows, "no crows", y -> y.keep(10), 0);
+    }
+
+    @Says("NONE.")
+    static void p25_withoutWheatAndWithoutCrows() {
+        Edge.refuses(BestEdges::withoutWheat, "no wheat", y -> y.worth(20), Check.NONE);
+        Edge.refuses(BestEdges::withoutCrows, "no crows", y -> y.worth(20), Check.NONE);
+    }
+
+    @Says("NONE.")
+    static void p27_withoutWheatAndWithoutCrows() {
+        Edge.refuses(BestEdges::withoutWheat, "no wheat", y -> y.swap(20), Check.NONE);
+        Edge.refuses(BestEdges::withoutCrows, "no crows", y -> y.swap(20), Check.NONE);
+    }
+
     // ---- 20: spot
 
     @Says("The CELL AT which, put there now, a LIKENESS lets least be EATEN")
@@ -58,6 +149,13 @@ final class BestEdges {
         Edge.due("at 364, two days", x.spot(0, 2), 0);
         x.place(0, 2, 365);
         Edge.due("at 365", x.spot(0, 1), 0);
+    }
+
+    @Says("CELLS 0 to 47,")
+    static void p20_noCellBehindTheLastIsTried() {
+        // A lady lets in wherever she stands, and would let in nothing one row below cell 40.
+        Edge.asks(() -> Edge.bare("wheat 2 1; wheat 29 1; dead temper 20; lady temper 30; likeness 0 at 2",
+            "likeness 0 at 29; likeness 1 at 40"), "spot(2, 1)", y -> y.spot(2, 1), 0);
     }
 
     @Says("a LIKENESS lets least be EATEN")
@@ -113,6 +211,16 @@ final class BestEdges {
         Edge.asks(made, "whose(0, 16)", y -> y.whose(0, 16), 2);
         Edge.asks(made, "whose(0, 17)", y -> y.whose(0, 17), 3);
         Edge.asks(made, "whose(0, 20)", y -> y.whose(0, 20), 3);
+    }
+
+    @Says("The SITTER of whom a LIKENESS had best be,")
+    static void p21_whoCameJustNowToo() {
+        CrowLikeness x = grainAt(20, "dead; likeness 0 at 20").get();
+        Edge.due("the only one", x.whose(0, 1), 0);
+        x.turn(x.sitter(3), 5);
+        Edge.due("a stranger who came", x.whose(0, 1), 1);
+        x.set(1, 1, 9);
+        Edge.due("and is too mild", x.whose(0, 1), 0);
     }
 
     @Says("a LIKENESS had best be,")
@@ -318,6 +426,17 @@ final class BestEdges {
         Edge.due("less than with all will do", x.keep(2), 2);
     }
 
+    @Says("(of those that there are,")
+    static void p24_eachIsAsOldAsItIs() {
+        CrowLikeness x = grainAt(20, "dead temper 20; likeness 0 at 20; likeness 0 at 20").get();
+        x.place(0, 2, 365);
+        Edge.due("the younger one", x.keep(1), 2);
+        x.place(0, 2, 364);
+        Edge.due("the older one, which keeps for a day still", x.keep(1), 1);
+        x.place(1, 2, 365);
+        Edge.due("the one that does, alone", x.keep(1), 1);
+    }
+
     @Says("with which no more is EATEN ON n DAYS (1 to 10) than with all;")
     static void p24_oneDayAndTen() {
         Supplier<CrowLikeness> made = grainAt(20,
@@ -354,6 +473,16 @@ final class BestEdges {
         Edge.due("two grains rather than one", x.worth(1), 1);
         x.wheat(20, 3);
         Edge.due("three grains rather than two", x.worth(1), 0);
+    }
+
+    @Says("The SITTER without whose LIKENESSES")
+    static void p25_theOthersAreAsOldAsTheyAre() {
+        CrowLikeness x = grainAt(20, "dead temper 20; dead temper 20; likeness 0 at 20; likeness 1 at 20").get();
+        x.place(1, 2, 365);
+        Edge.due("the younger one's keeps it alone", x.worth(1), 0);
+        x.place(1, 2, 364);
+        Edge.due("the older one's does for a day still", x.worth(1), Check.NONE);
+        Edge.due("and not for two", x.worth(2), 0);
     }
 
     @Says("of several the least.")
@@ -429,6 +558,17 @@ final class BestEdges {
         apart("likeness 0 at 40; likeness 0 at 47", 1, 39);
     }
 
+    @Says("The CELL to which a LIKENESS had best be moved,")
+    static void p26_toTheFirstAndTheLastCell() {
+        apart("likeness 0 at 1; likeness 0 at 41", 0, 0);
+        apart("likeness 0 at 46; likeness 0 at 6; likeness 0 at 13", 0, 47);
+    }
+
+    @Says("CELLS 0 to 47,")
+    static void p26_noCellBehindTheLastIsTried() {
+        apart("likeness 0 at 40; likeness 0 at 41; likeness 0 at 34", 0, 24);
+    }
+
     @Says("then the least.")
     static void p26_ofThoseAsNearTheLeast() {
         apart("likeness 0 at 20; likeness 0 at 20", 0, 11);
@@ -441,6 +581,19 @@ final class BestEdges {
         CrowLikeness x = Edge.plain("sitter; likeness 0 at 0; likeness 0 at 9; likeness 0 at 18; likeness 0 at 27");
         Check.plainOf(x, "likeness 0 at 36; likeness 0 at 45; likeness 0 at 45; likeness 0 at 45");
         Edge.due("every row has one: at 6 columns off it meets that alone", x.apart(7), 36);
+    }
+
+    @Says("so that its SITTER MEETS itself least;")
+    static void p26_asItIsAndNotAsItWas() {
+        CrowLikeness x = Edge.plain("sitter; sitter; likeness 0 at 0; likeness 0 at 0");
+        Edge.due("it meets another", x.apart(1), 9);
+        x.place(1, 1, 1);
+        Edge.due("once it is of another one", x.apart(1), 0);
+        x.likeness(1, 0);
+        Edge.due("once he has two there", x.apart(1), 9);
+        Edge.due("and the other of these", x.apart(2), 9);
+        x.place(2, 0, 9);
+        Edge.due("once it is elsewhere", x.apart(1), 0);
     }
 
     @Says("so that its SITTER MEETS itself least;")

@@ -334,6 +334,11 @@ final class DaysEdges {
         Edge.asks("on(12, 0)", y -> y.on(12, 0), 40);
     }
 
+    @Says("nothing changes.")
+    static void p17_changesNothing() {
+        Edge.leaves("on(0, 60)", y -> y.on(0, 60));
+    }
+
     @Says("n DAYS go on with all as it is; nothing changes.")
     static void p17_agesAndTempersGoOnToo() {
         Edge.asks(() -> deadAt20(20, 306), "on(20, 59)", y -> y.on(20, 59), 9);
@@ -382,6 +387,11 @@ final class DaysEdges {
         Edge.asks("eaten(0)", y -> y.eaten(0), 0);
     }
 
+    @Says("nothing changes.")
+    static void p18_changesNothing() {
+        Edge.leaves("eaten(60)", y -> y.eaten(60));
+    }
+
     @Says("EATEN: how much WHEAT is less by then.")
     static void p18_nothingAllAndTheMost() {
         Edge.asks(Edge::bare, "eaten(60)", y -> y.eaten(60), 0);
@@ -415,6 +425,11 @@ final class DaysEdges {
         Edge.asks(() -> deadAt20(20, 306), "first(20)", y -> y.first(20), 60);
     }
 
+    @Says("nothing changes.")
+    static void p19_changesNothing() {
+        Edge.leaves("first(8)", y -> y.first(8));
+    }
+
     @Says("NONE.")
     static void p19_the61stIsNone() {
         Edge.refuses(() -> deadAt20(20, 305), "first(20)", y -> y.first(20), Check.NONE);
@@ -431,6 +446,21 @@ final class DaysEdges {
     static void p19_oneGrainLessIsLess() {
         Edge.asks(() -> Edge.bare("wheat 47 1"), "first(47)", y -> y.first(47), 1);
         Edge.asks(() -> Edge.bare("wheat 46 99; wheat 47 1; crows 1"), "first(47)", y -> y.first(47), 51);
+    }
+
+    @Says("ON: n DAYS go on with all as it is;")
+    static void p19_asItIsAndNotAsItWas() {
+        CrowLikeness x = deadAt20(20, 0);
+        Edge.due("kept", x.first(20), Check.NONE);
+        x.place(0, 0, 47);
+        Edge.due("once it stands elsewhere", x.first(20), 1);
+        x.place(0, 0, 20);
+        x.turn(0, 2);
+        Edge.due("once he is laughed at", x.first(20), 1);
+        x.turn(0, 3);
+        Edge.due("once he is dead again", x.first(20), Check.NONE);
+        x.likeness(0, 23);
+        Edge.due("once he minds", x.first(20), 2);
     }
 
     @Says("In how many DAYS (0 to 60) ON")

@@ -138,6 +138,13 @@ final class Edge {
         same(call, x, twin, 0);
     }
 
+    /** The call answers no finding, whatever it answers, and changes nothing where some of all is there. */
+    static void leaves(String call, ToLongFunction<CrowLikeness> act) {
+        CrowLikeness x = rich();
+        holds(call + " answers", act.applyAsLong(x) > Check.SIZE + FINDINGS);
+        same(call, x, rich(), 0);
+    }
+
     private static void same(String call, CrowLikeness x, CrowLikeness twin, int finding) {
         for (int which = 0; which < FINDINGS; which++) {
             int more = finding == Check.BEYOND - which ? 1 : 0;

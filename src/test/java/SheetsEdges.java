@@ -310,8 +310,8 @@ final class SheetsEdges {
 
     @Says("BEYOND: one has not so many,")
     static void p33_beyondOfWhatOneHas() {
-        int[][] off = {{0, 0, 5}, {0, 1, 4}, {3, 0, 4}, {6, 0, 1}, {5, 0, 2}, {0, 4, 1}, {0, 3, 2}, {0, 0, 7}, {7, 0, 0},
-            {0, 5, 0}, {0, 0, 41}};
+        int[][] off = {{0, 0, 5}, {0, 1, 4}, {3, 0, 4}, {6, 0, 1}, {5, 0, 2}, {0, 4, 1}, {0, 3, 2}, {0, 0, 7},
+            {7, 0, 0}, {0, 5, 0}, {0, 0, 41}};
         for (int[] o : off) {
             Edge.refuses(SheetsEdges::rows, "copy(0, " + o[0] + ", 1, " + o[1] + ", " + o[2] + ")",
                 y -> y.copy(0, o[0], 1, o[1], o[2]), Check.BEYOND);
@@ -322,7 +322,8 @@ final class SheetsEdges {
 
     @Says("or from, to or n is below 0.")
     static void p33_beyondBelow0() {
-        int[][] off = {{-1, 0, 1}, {0, -1, 1}, {0, 0, -1}, {-1, -1, 1}, {1, 1, -1}, {-1, 0, 0}, {0, -1, 0}, {-1, -1, -1}};
+        int[][] off = {{-1, 0, 1}, {0, -1, 1}, {0, 0, -1}, {-1, -1, 1}, {1, 1, -1}, {-1, 0, 0}, {0, -1, 0},
+            {-1, -1, -1}};
         for (int[] o : off) {
             Edge.refuses(SheetsEdges::rows, "copy(0, " + o[0] + ", 1, " + o[1] + ", " + o[2] + ")",
                 y -> y.copy(0, o[0], 1, o[1], o[2]), Check.BEYOND);
@@ -367,7 +368,8 @@ final class SheetsEdges {
 
     @Says("(those that aren't 0 to 99 are left out)")
     static void p34_numbersAtTheirEnds() {
-        CrowLikeness x = sheetOf(64, Long.MIN_VALUE, Long.MAX_VALUE, (1L << 32) + 5, -(1L << 32) + 5, 256 + 5, 65536 + 5);
+        CrowLikeness x =
+            sheetOf(64, Long.MIN_VALUE, Long.MAX_VALUE, (1L << 32) + 5, -(1L << 32) + 5, 256 + 5, 65536 + 5);
         Edge.due("64 bits", x.lays(0), 0);
         Edge.due("now(2)", x.now(2), 480);
         fill(x, 0, 8, -128, 127, 256 + 5);
@@ -460,6 +462,21 @@ final class SheetsEdges {
         holds(x, 1, (byte) 4752, (byte) 4712, (byte) 4672);
     }
 
+    @Says("ON: n DAYS go on with all as it is;")
+    static void p35_asItIsAndNotAsItWas() {
+        CrowLikeness x = Edge.bare("wheat 20 9; dead temper 20; likeness 0 at 20");
+        x.sheet(0, 8, 3);
+        x.book(0);
+        holds(x, 0, 9, 9, 9);
+        x.place(0, 0, 47);
+        x.book(0);
+        holds(x, 0, 9, 3, 0);
+        x.place(0, 0, 20);
+        x.likeness(0, 23);
+        x.book(0);
+        holds(x, 0, 9, 9, 3);
+    }
+
     @Says("ON 0, 1, 2, .. DAYS")
     static void p35_behindTheLastDay() {
         CrowLikeness x = Edge.atDay(9999);
@@ -542,6 +559,42 @@ final class SheetsEdges {
         Edge.due("at 326 it keeps the 39 days that go", x.read(0, 0), 1);
         x.place(0, 2, 327);
         Edge.due("at 327 it does not", x.read(0, 0), 0);
+    }
+
+    @Says("nothing changes.")
+    static void p36_changesNothing() {
+        for (int s = 0; s < 3; s++) {
+            for (int likeness = 0; likeness < 4; likeness++) {
+                int sheet = s;
+                int l = likeness;
+                Edge.leaves("read(" + s + ", " + likeness + ")", y -> y.read(sheet, l));
+            }
+        }
+    }
+
+    @Says("how many pairs of a SITTER and a CELL make it just so,")
+    static void p36_whoCameJustNowToo() {
+        CrowLikeness x = grain(8, 1, 1);
+        x.sitter(5);
+        Edge.due("a stranger who came keeps it too", x.read(0, 0), 2);
+        x.set(2, 1, 9);
+        Edge.due("and does not, once he is too mild", x.read(0, 0), 1);
+        x.set(2, 1, 12);
+        Edge.due("twelve at the cell are 24, one off 18", x.read(0, 0), 2);
+        x.set(2, 1, 13);
+        Edge.due("thirteen one off are 20", x.read(0, 0), 4);
+    }
+
+    @Says("numbers of a sheet are WHEAT of all CELLS together")
+    static void p36_withoutWheatAndWithoutCrows() {
+        CrowLikeness x = Edge.bare("sitter; dead temper 30; likeness 1 at 47");
+        x.sheet(0, 8, 40);
+        Edge.due("no wheat: 0 on each day", x.read(0, 0), 96);
+        x.wheat(0, 1);
+        x.crows(0);
+        Edge.due("1 is not 0", x.read(0, 0), 0);
+        x.book(0);
+        Edge.due("no crows: 1 on each day", x.read(0, 0), 96);
     }
 
     @Says("(as old as it is).")

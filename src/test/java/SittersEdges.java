@@ -12,7 +12,7 @@ final class SittersEdges {
     private SittersEdges() {
     }
 
-    /** All that can be: six sitters, one of each kind, and eight likenesses. */
+    /** As many as can be, one of each kind. */
     private static CrowLikeness six() {
         return Edge.plain("sitter;bailiff;laughed;dead;lady;stranger");
     }
@@ -314,6 +314,17 @@ final class SittersEdges {
         CrowLikeness x = Edge.plain("lady temper 0; stranger temper 30");
         Edge.due("as(0, 2)", x.as(0, 2), 0);
         Edge.due("as(1, 3)", x.as(1, 3), 30);
+    }
+
+    @Says("TEMPER.")
+    static void p09_temperAsItIsAndNotAsItWas() {
+        CrowLikeness x = six();
+        x.set(5, 1, 7);
+        Edge.due("as(5, 0) once set", x.as(5, 0), 7);
+        x.likeness(5, 0);
+        x.likeness(5, 0);
+        x.days(2);
+        Edge.due("as(5, 0) once he minds", x.as(5, 0), 5);
     }
 
     @Says("KIND: it isn't of that kind,")

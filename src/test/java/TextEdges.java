@@ -209,6 +209,24 @@ final class TextEdges {
         fault("^" + "z".repeat(120));
     }
 
+    @Says("another WORD,")
+    static void p30_wordsOfOneOtherLetter() {
+        String[] firsts = {"sitter", "bailiff", "laughed", "dead", "lady", "stranger", "likeness", "wheat", "crows"};
+        for (String word : firsts) {
+            for (int i = 0; i < word.length(); i++) {
+                fault("^" + word.substring(0, i) + "q" + word.substring(i + 1) + " 0 at 0");
+            }
+        }
+        fault("dead ^qemper 3");
+        fault("dead ^tempeq 3");
+        fault("dead ^qee 3");
+        fault("dead ^feq 3");
+        fault("likeness 0 ^qt 0");
+        fault("likeness 0 ^aq 0");
+        fault("wheat 0 1 ^qo 3");
+        fault("wheat 0 1 ^tq 3");
+    }
+
     @Says("blanks may stand between.")
     static void p30_blanksMayStandBetweenOrNot() {
         good("  crows   7  ;   crows  8  ", 2);
@@ -228,8 +246,8 @@ final class TextEdges {
 
     @Says("a byte that begins no TOKEN,")
     static void p30_bytesThatBeginNoToken() {
-        for (int b : new int[] {0, 9, 10, 13, 31, 33, '-', '+', '.', '/', ':', '<', '@', 'A', 'Z', '[', '`', '{', 127, 128,
-            160, 255}) {
+        for (int b : new int[] {0, 9, 10, 13, 31, 33, '-', '+', '.', '/', ':', '<', '@', 'A', 'Z', '[', '`', '{', 127,
+            128, 160, 255}) {
             fault("^" + (char) b + "crows 3");
             fault("crows^" + (char) b + "3");
             fault("crows ^" + (char) b);
