@@ -594,6 +594,8 @@ final class BestEdges {
         Edge.due("and the other of these", x.apart(2), 9);
         x.place(2, 0, 9);
         Edge.due("once it is elsewhere", x.apart(1), 0);
+        x.place(1, 1, 0);
+        Edge.due("once it is of the first again", x.apart(1), 9);
     }
 
     @Says("so that its SITTER MEETS itself least;")

@@ -541,7 +541,9 @@ final class SheetsEdges {
         CrowLikeness x = Edge.plain("sitter;sitter;sitter;sitter;sitter;sitter; likeness 5 at 47");
         x.sheet(3, 64, 0);
         Edge.due("288 pairs", x.read(3, 0), 288);
-        x = Edge.plain("sitter; likeness 0 at 47");
+        x = new CrowLikeness();
+        x.sitter(0);
+        x.likeness(0, 47);
         x.sheet(3, 64, 0);
         Edge.due("48 pairs", x.read(3, 0), 48);
     }
